@@ -480,12 +480,12 @@ public final class PulseSigns {
     private static final class Search {
         static int leastSided(int n) {
             int best = 0;
-            int bestPeak = peakOf(0, n);
+            int bestPeak = peakOf(0, n, n * n);
             int bestFlank = flankOf(0, n);
             // A sign that begins with 2 has the sides of its negative, which begins with 0 and so comes first
             int end = 1 << (n - 1);
             for (int bits = 1; bits < end; bits++) {
-                int peak = peakOf(bits, n);
+                int peak = peakOf(bits, n, bestPeak);
                 if (peak > bestPeak) {
                     continue;
                 }
@@ -499,9 +499,10 @@ public final class PulseSigns {
             return best;
         }
 
-        static int peakOf(int bits, int n) {
+        /** The peak, or a side that is above the limit: most signs are passed over after few sides. */
+        static int peakOf(int bits, int n, int limit) {
             int most = 0;
-            for (int late = 1; late < n; late++) {
+            for (int late = 1; late < n && most <= limit; late++) {
                 most = Math.max(most, side(bits, n, late));
             }
             return most;
@@ -607,7 +608,7 @@ public final class PulseSigns {
         // every period is 2 or more at all times, so that each may divide
         final int[] periods = new int[MOST];
         final int[] readings = new int[MOST];
-        int length = 1;
+        int length;
 
         Rests() {
             reset(1);
@@ -684,24 +685,17 @@ public final class PulseSigns {
             return all;
         }
 
-        /** How many speeds are blind for each of the rests from first to last. */
+        /**
+         * How many speeds are blind for each of the rests from first to last. One is for a rest just if it is a
+         * multiple of round by the greatest divisor that round has in common with the rest, so the count is the
+         * greatest divisor that all of them have in common.
+         */
         int unseen(int first, int last, int round) {
-            int many = 0;
-            for (int v = 0; v < round; v++) {
-                if (isUnseen(v, first, last, round)) {
-                    many++;
-                }
-            }
-            return many;
-        }
-
-        boolean isUnseen(int v, int first, int last, int round) {
+            long all = round;
             for (int i = first; i <= last; i++) {
-                if (v * periods[i] % round != 0) {
-                    return false;
-                }
+                all = commonDivisor(all, periods[i]);
             }
-            return true;
+            return (int) all;
         }
     }
 

@@ -106,12 +106,17 @@ public final class RestsTest {
         due("span ends behind 39", x.unfold(0, 2, 40), 0);
         due("span ends behind 40", x.unfold(0, 2, 41), 1);
         due("either of them", x.unfold(0, 1, 77), 11 + 7 - 1);
+        due("a span of one", x.unfold(5, 1, 1), 1);
         due("more than there are", x.unfold(5, 3, 5000), 0);
         due("more than there are", x.unfold(5, 4, 5000), 0);
         due("one away", x.unfold(1, 2, 77), 9);
         x.read(0, PulseSigns.NONE);
         due("one missed", x.unfold(0, 2, 77), 0);
         due("the other one", x.unfold(0, 1, 77), 7);
+        PulseSigns four = with(3, 5, 7, 11);
+        four.fold(100);
+        due("four of four", four.unfold(0, 4, 5000), 5);
+        due("three of four", four.unfold(0, 3, 1155), 1 + 10 + 6 + 4 + 2);
         for (int e : new int[] {-1, 6, MIN, MAX}) {
             due("unfold(" + e + ", 1, 1)", x.unfold(e, 1, 1), PulseSigns.OUTSIDE);
             due("unfolded(" + e + ", 1, 1, 0)", x.unfolded(e, 1, 1, 0), PulseSigns.OUTSIDE);
@@ -155,6 +160,8 @@ public final class RestsTest {
 
     private static void common() {
         due("common of 2", new PulseSigns().common(), 2);
+        due("common of 3", with(3).common(), 3);
+        due("common of 3, 5, 9, 7", with(3, 5, 9, 7).common(), 315);
         due("common of 4, 6", with(4, 6).common(), 12);
         due("common of 60, 30, 20", with(60, 30, 20).common(), 60);
         due("common of 59, 57, 58, 55", with(59, 57, 58, 55).common(), 59 * 57 * 58 * 55);
@@ -170,6 +177,12 @@ public final class RestsTest {
         due("blind(NONE, 1)", x.blind(PulseSigns.NONE, 1), 1);
         due("blind(1, 3600)", x.blind(1, 3600), 6);
         due("blind(0, 7)", x.blind(0, 7), 1);
+        due("blind for four", with(60, 30, 15, 45).blind(PulseSigns.NONE, 3600), 15);
+        due("blind for the last", with(60, 30, 15, 45).blind(3, 3600), 45);
+        x.rests(1);
+        x.rest(0, 6);
+        due("a rest that is gone", x.blind(PulseSigns.NONE, 9), 3);
+        x = with(4, 6);
         for (int i : new int[] {-2, 2, 4, MIN, MAX}) {
             due("blind(" + i + ", 0)", x.blind(i, 0), PulseSigns.UNKNOWN);
             due("blind(" + i + ", 5)", x.blind(i, 5), PulseSigns.UNKNOWN);

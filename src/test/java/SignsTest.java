@@ -129,6 +129,13 @@ public final class SignsTest {
         set(x, 4, 1, 2);
         due("made(4, 4, 0)", x.made(4, 4, 0), 2);
         dueTurns("an even one", x, 4, 2, 1);
+        set(x, 4, 3, 0, 0, 0, 0, 0, 0, 0, 0, 0, 0, 0, 0, 0, 0, 1);
+        due("sixteen back to front", x.made(0, 4, 0), 16);
+        dueTurns("sixteen back to front", x, 0, 1, 0, 0, 0, 0, 0, 0, 0, 0, 0, 0, 0, 0, 0, 0, 3);
+        due("sixteen the other way", x.made(1, 4, 1), 16);
+        dueTurns("sixteen the other way", x, 1, 1, 0, 0, 0, 0, 0, 0, 0, 0, 0, 0, 0, 0, 0, 0, 3);
+        due("sixteen one more", x.made(2, 4, 2), 16);
+        dueTurns("sixteen one more", x, 2, 0, 1, 1, 1, 1, 1, 1, 1, 1, 1, 1, 1, 1, 1, 1, 2);
         long before = x.digest();
         for (int side : new int[] {-1, 3, MIN, MAX}) {
             CHECK.refused("made(1, 0, " + side + ")", x, before, x.made(1, 0, side), PulseSigns.OUTSIDE);
@@ -215,25 +222,26 @@ public final class SignsTest {
         due("worst of Barker's seven", x.worst(0), 9);
         set(x, 0, 0, 0);
         due("worst of 0 0", x.worst(0), 2);
+        // each number is turned further against the next, so that only a LATE with a SPEED gathers them
+        set(x, 0, 0, 0, 3, 1, 2, 2, 1, 3, 0, 0, 3, 1, 2, 2, 1, 3);
+        due("worst of sixteen", x.worst(0), 225);
+        due("its peak", x.peak(0), 144);
     }
 
     private static void best() {
         PulseSigns x = new PulseSigns();
-        int[][] want = {{0}, {0, 0}, {0, 0, 2}, {0, 0, 0, 2}, {0, 0, 0, 2, 0}, {0, 0, 0, 0, 2, 0},
-            {0, 0, 0, 2, 2, 0, 2}};
-        int[] peaks = {0, 1, 1, 1, 1, 4, 1};
-        for (int n = 1; n <= 7; n++) {
+        String[] want = {"0", "00", "002", "0002", "00020", "000020", "0002202", "00002202", "000202002",
+            "0000022020", "00022202202", "000002200202"};
+        int[] peaks = {0, 1, 1, 1, 1, 4, 1, 4, 4, 4, 1, 4};
+        int[] flanks = {0, 1, 1, 2, 2, 7, 3, 8, 12, 13, 5, 10};
+        for (int n = 1; n <= 12; n++) {
             int c = n % 6;
+            set(x, c, 3, 3, 3, 3, 3, 3, 3, 3, 3, 3, 3, 3, 3, 3);
             due("best(" + c + ", " + n + ")", x.best(c, n), peaks[n - 1]);
-            if (n != 6) {
-                dueTurns("best of " + n, x, c, want[n - 1]);
-            }
+            dueTurns("best of " + n, x, c, want[n - 1].chars().map(sign -> sign - '0').toArray());
+            due("flank of the best of " + n, x.flank(c), flanks[n - 1]);
             due("told(3)", x.told(3), n);
         }
-        due("best(0, 12)", x.best(0, 12), 4);
-        due("flank(0)", x.flank(0), 10);
-        due("best(0, 1)", x.best(0, 1), 0);
-        dueTurns("best of 1", x, 0, 0);
         long before = x.digest();
         for (int n : new int[] {0, 13, -1, MIN, MAX}) {
             CHECK.refused("best(0, " + n + ")", x, before, x.best(0, n), PulseSigns.OUTSIDE);
