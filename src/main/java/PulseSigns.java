@@ -605,7 +605,6 @@ public final class PulseSigns {
         static final int GREATEST_MISS = 5;
         static final int GREATEST_SPAN = 5000;
 
-        // every period is 2 or more at all times, so that each may divide
         final int[] periods = new int[MOST];
         final int[] readings = new int[MOST];
         int length;
@@ -630,9 +629,15 @@ public final class PulseSigns {
             }
         }
 
+        int foldedBy(int i, int r) {
+            int period = periods[i];
+            // it is 2 or more at all times, but a divisor is looked at where it divides
+            return period >= SHORTEST ? r % period : 0;
+        }
+
         void readAll(int r) {
             for (int i = 0; i < length; i++) {
-                readings[i] = r % periods[i];
+                readings[i] = foldedBy(i, r);
             }
         }
 
@@ -640,7 +645,7 @@ public final class PulseSigns {
             if (readings[i] == NONE) {
                 return false;
             }
-            int away = Math.abs(readings[i] - r % periods[i]);
+            int away = Math.abs(readings[i] - foldedBy(i, r));
             return Math.min(away, periods[i] - away) <= e;
         }
 

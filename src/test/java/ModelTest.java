@@ -2,8 +2,10 @@ import java.util.Random;
 
 /** All promises: long runs of calls, each answer beside the one of Model. The seeds are written, so each run is the same. */
 public final class ModelTest {
-    private static final int RUNS = 400;
-    private static final int CALLS = 500;
+    private static final int RUNS = 1000;
+    // an object is used for 512 calls, and one step of a run makes 18 at most
+    private static final int MOST_CALLS = 512;
+    private static final int MOST_IN_STEP = 18;
     private static final int[] WILD = {Integer.MIN_VALUE, Integer.MAX_VALUE, -2, 70, 10001, 1000001};
 
     private final Check check;
@@ -11,6 +13,7 @@ public final class ModelTest {
     private final PulseSigns x = new PulseSigns();
     private final Model y = new Model();
     private String call = "";
+    private int calls = 0;
 
     private ModelTest(Check check, long seed) {
         this.check = check;
@@ -37,10 +40,10 @@ public final class ModelTest {
     }
 
     private static void everyShare(Check check) {
-        PulseSigns x = new PulseSigns();
         Model y = new Model();
         for (int n = 0; n <= 9; n++) {
             for (int k = 0; k <= 9; k++) {
+                PulseSigns x = new PulseSigns();
                 for (int s = 0; s <= 41; s++) {
                     for (int part = 0; part <= 1; part++) {
                         String how = "share(" + n + ", " + k + ", " + s + ", " + part + ")";
@@ -52,11 +55,12 @@ public final class ModelTest {
     }
 
     private void run(int run) {
-        for (int i = 0; i < CALLS; i++) {
+        for (int i = 0; calls + MOST_IN_STEP <= MOST_CALLS; i++) {
             // every other run stays with one part of the class, so that its state goes deep
             int method = run % 2 == 0 ? random.nextInt(32) : narrow(run);
             both("run " + run + ", call " + i + ": ", method);
             check.due("digest() behind " + call, x.digest(), y.digest());
+            calls++;
         }
     }
 
@@ -99,6 +103,7 @@ public final class ModelTest {
             text.append(i == 0 ? "" : ", ").append(with[i]);
         }
         call = text.append(')').toString();
+        calls++;
         check.due(call, got, want);
     }
 
