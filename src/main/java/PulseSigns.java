@@ -683,11 +683,11 @@ public final class PulseSigns {
         }
 
         int leastCommon() {
-            int all = 1;
+            long all = 1;
             for (int i = 0; i < length; i++) {
-                all *= periods[i] / (int) commonDivisor(all, periods[i]);
+                all *= periods[i] / commonDivisor(all, periods[i]);
             }
-            return all;
+            return (int) all;
         }
 
         /**

@@ -1,5 +1,4 @@
 import java.lang.reflect.InvocationTargetException;
-import java.lang.reflect.Method;
 import java.util.Arrays;
 
 /**
@@ -159,12 +158,8 @@ final class Case {
     }
 
     private long call(PulseSigns of, String name, int... with) {
-        Object[] boxed = Arrays.stream(with).boxed().toArray();
-        Class<?>[] types = new Class<?>[with.length];
-        Arrays.fill(types, int.class);
         try {
-            Method method = PulseSigns.class.getMethod(name, types);
-            return ((Number) method.invoke(of, boxed)).longValue();
+            return Calls.call(of, name, with);
         } catch (InvocationTargetException thrown) {
             fail(written(name, with) + " threw " + thrown.getCause());
             return Long.MIN_VALUE;

@@ -1,4 +1,3 @@
-import java.lang.reflect.Method;
 import java.util.ArrayList;
 import java.util.Arrays;
 import java.util.List;
@@ -111,12 +110,6 @@ public final class SweepTest {
 
     private void both(String name, int... with) throws ReflectiveOperationException {
         calls++;
-        Object[] boxed = Arrays.stream(with).boxed().toArray();
-        Class<?>[] types = new Class<?>[with.length];
-        Arrays.fill(types, int.class);
-        Method ours = PulseSigns.class.getMethod(name, types);
-        Method plain = Model.class.getDeclaredMethod(name, types);
-        long got = ((Number) ours.invoke(x, boxed)).longValue();
-        check.due(name + Arrays.toString(with), got, ((Number) plain.invoke(y, boxed)).longValue());
+        check.due(name + Arrays.toString(with), Calls.call(x, name, with), Calls.call(y, name, with));
     }
 }
